@@ -1417,8 +1417,7 @@ public final class HourValley {
                     planWith(one, i, met);
                 }
             }
-            helper[i] = NONE;
-            plan(i + 1, met);
+            planWithout(i, met);
         }
 
         private boolean isFreeFor(int one, int need) {
@@ -1434,6 +1433,11 @@ public final class HourValley {
             plan(i + 1, met + 1);
             free[one] += needs.hours[chosen[i]];
             place[one] = before;
+        }
+
+        private void planWithout(int i, int met) {
+            helper[i] = NONE;
+            plan(i + 1, met);
         }
 
         int helperOf(int need) {

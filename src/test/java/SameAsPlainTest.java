@@ -168,14 +168,18 @@ public final class SameAsPlainTest {
     }
 
     private static void needCall() {
-        int a = who(), s = any(0, 4), h = random(2) == 0 ? any(1, 4) : any(1, 12), w = y.now + random(3), n = any(0, y.needs.size() - 1);
+        int a = who(), s = any(0, 4), h = random(2) == 0 ? any(1, 4) : any(1, 12), w = y.now + random(4) / 2, n = any(0, y.needs.size() - 1);
         int far = any(0, 520);
         switch (random(8)) {
             case 0: { int t = random(6) == 0 ? far : w; same("need " + a + " " + s + " " + h + " " + t, () -> x.need(a, s, h, t), () -> y.need(a, s, h, t)); break; }
             case 1: { int t = random(2) == 0 ? far : w; same("free " + a + " " + t, () -> x.free(a, t), () -> y.free(a, t)); break; }
             case 2: same("could " + n, () -> x.could(n), () -> y.could(n)); break;
             case 3: same("best " + n, () -> x.best(n), () -> y.best(n)); break;
-            case 4: if (random(3) == 0) same("meet " + n + " " + a, () -> x.meet(n, a), () -> y.meet(n, a)); break;
+            case 4: {
+                int could = y.could(n), best = could > 0 && random(2) == 0 ? Integer.numberOfTrailingZeros(could) : a;
+                if (random(2) == 0) same("meet " + n + " " + best, () -> x.meet(n, best), () -> y.meet(n, best));
+                break;
+            }
             case 5: { int t = random(5) == 0 ? far : w; same("barn " + t, () -> x.barn(t), () -> y.barn(t)); break; }
             default: same("helper " + n, () -> x.helper(n), () -> y.helper(n));
         }
@@ -195,6 +199,23 @@ public final class SameAsPlainTest {
         }
     }
 
+    /** Folk, at times roads, and at times a book that is all but full. */
+    private static void begin() {
+        int size = random(13), places = 1 + random(6), open = random(3) * 5, acts = random(8) == 0 ? 125 + random(25) : 0;
+        for (int i = 0; i < size; i++) {
+            int kind = random(5), place = random(places), skills = random(3) == 0 ? random(32) : 31;
+            same("folk " + kind + " " + place + " " + skills, () -> x.folk(kind, place, skills), () -> y.folk(kind, place, skills));
+        }
+        for (int i = 0; i < open; i++) {
+            int a = random(6), b = random(6), s = random(16);
+            same("road " + a + " " + b + " " + s, () -> x.road(a, b, s), () -> y.road(a, b, s));
+        }
+        for (int i = 0; i < acts; i++) {
+            int a = who(), b = who(), h = 1 + random(20), how = random(4);
+            same("act " + a + " " + b + " " + h + " 0 " + how, () -> x.act(a, b, h, 0, how), () -> y.act(a, b, h, 0, how));
+        }
+    }
+
     private static void run(int number) {
         seed = number;
         x = new HourValley();
@@ -202,9 +223,9 @@ public final class SameAsPlainTest {
         told.clear();
         told.add("run " + number);
         int[] shares = {2 + random(4), 5 + random(30), 2 + random(15), 1 + random(10), random(3) * 8, random(12)};
-        int deaths = random(30), size = random(13), sum = 0;
-        for (int i = 0; i < size; i++) same("folk", () -> x.folk(number % 5, number % 2, 31), () -> y.folk(number % 5, number % 2, 31));
+        int deaths = random(3) == 0 ? random(30) : random(3), sum = 0;
         for (int s : shares) sum += s;
+        begin();
         while (told.size() < CALLS && wrong == 0) {
             int k = random(sum);
             if ((k -= shares[0]) < 0) valleyCall();
