@@ -43,23 +43,6 @@ public final class AnyArgumentsTest {
         System.out.println(m.getName() + Arrays.toString(a) + " " + what);
     }
 
-    /** All that can be asked without a change. */
-    private static String stateOf(HourValley x) {
-        StringBuilder s = new StringBuilder();
-        for (int k = 0; k < 7; k++) s.append(x.count(k)).append(' ');
-        for (int w = 0; w < x.count(0); w++) for (int k = 0; k < 6; k++) s.append(x.about(w, k)).append(' ');
-        for (int e = 0; e < x.count(1); e++) for (int k = 0; k < 5; k++) s.append(x.entry(e, k)).append(' ');
-        for (int n = 0; n < x.count(3); n++) s.append(x.could(n)).append(' ').append(x.best(n)).append(' ');
-        for (int d = 0; d < 8; d++) {
-            s.append(x.weight(d)).append(' ').append(x.toss(d)).append(' ').append(x.bound(d)).append(' ').append(x.fault(d)).append(' ');
-            for (int i = 0; i < 80; i++) {
-                try { s.append(x.element(d, i)).append(' '); } catch (IllegalStateException e) { break; }
-            }
-        }
-        for (int v = 0; v < 2; v++) s.append(x.all(520, -1, v)).append(' ');
-        return s.append(x.shortest(-1)).toString();
-    }
-
     private static boolean refused(Method m, String answer) {
         return answer.equals("throws") || (answer.startsWith("-") && !m.getName().equals("element") && !m.getName().equals("balance"));
     }
@@ -72,9 +55,9 @@ public final class AnyArgumentsTest {
             Method m = face.get(random(face.size()));
             Object[] a = arguments(m, random(10) < often);
             boolean look = i % 16 == 0;
-            String before = look ? stateOf(x) : "";
+            String before = look ? State.of(x) : "";
             String answer = call(x, m, a);
-            if (look && refused(m, answer) && !stateOf(x).equals(before)) tell(m, a, "was refused and changed something");
+            if (look && refused(m, answer) && !State.of(x).equals(before)) tell(m, a, "was refused and changed something");
         }
     }
 
