@@ -267,11 +267,12 @@ public final class HourValley {
     }
 
     public int proves(int d) {
-        int bound = bound(d);
-        if (bound < 0) {
-            return bound;
+        int refusal = refusalOfPrices(d);
+        if (refusal != 0) {
+            return refusal;
         }
-        return bound == most() ? 1 : 0;
+        workNow();
+        return settling.boundBy(shelves.rows[d], folk.size) == settling.mostOff() ? 1 : 0;
     }
 
     // ---- needs

@@ -305,6 +305,18 @@ public final class BookEdgesTest extends Edges {
             due(12, x.owed(1, 0, 8, -1, 0));
             due(9, x.owed(1, 0, 9, -1, 0));
             due(9, x.owed(1, 0, 520, -1, 0));
+            // entries of six weeks, told in all kinds of orders: each is forgiven what is owed by then
+            int[][] orders = {{0, 5, 3, 1, 4, 2}, {5, 4, 3, 2, 1, 0}, {0, 1, 2, 3, 4, 5}, {2, 0, 4, 1, 5, 3}, {1, 5, 0, 4, 2, 3}};
+            for (int[] order : orders) {
+                valley(3);
+                x.act(2, 1, 1, 0, 0);
+                x.week(3);
+                x.forgive(1, 0, 1000);
+                x.week(5);
+                for (int w : order) x.act(0, 1, w + 1, w, 0);
+                int[] sums = {1, 3, 6, 4, 9, 15};
+                for (int w = 0; w < 6; w++) due(sums[w], x.owed(1, 0, w, -1, 0));
+            }
             // forgiven in one week ahead of, and behind, what is owed
             valley(2);
             x.forgive(1, 0, 5);
@@ -407,6 +419,26 @@ public final class BookEdgesTest extends Edges {
             due(17, x.all(0, -1, 0));
             due(17, x.balance(2, 0, -1, 0));
             due(0, x.balance(0, 0, -1, 0));
+            // each of the others, the first and the last ones too
+            for (int dead = 0; dead < 12; dead++) {
+                valley(12);
+                int heir = (dead + 7) % 12;
+                for (int y = 0; y < 12; y++) if (y != dead) x.act(dead, y, y + 1, 0, 0);
+                for (int y = 0; y < 12; y++) if (y != dead) x.act(y, dead, 20, 0, 0);
+                x.death(dead, heir);
+                for (int y = 0; y < 12; y++) {
+                    due(y == dead || y == heir ? 0 : y + 1, owedNow(y, heir));
+                    due(0, owedNow(y, dead));
+                    due(0, owedNow(dead, y));
+                }
+                due(78 - dead - heir - 2, x.all(0, -1, 0));
+            }
+            valley(4);
+            x.act(0, 1, 4, 0, 0);
+            x.act(0, 2, 5, 0, 0);
+            x.act(0, 3, 6, 0, 0);
+            x.act(2, 1, 7, 0, 0);
+            x.death(0, 2);
             // hours go on and on
             x.death(2, 3);
             due(11, owedNow(1, 3));
@@ -634,7 +666,7 @@ public final class BookEdgesTest extends Edges {
     }
 
     private static void asking() {
-        sentence("-4 (CUSTOM), 4 hours, n (-4: others). -1.", () -> {
+        sentence("2, 3 who gave, took; the ACT, 1 or 0 (JUDGED); the ACT (GIFT; 3: -4); a, b; the first, second of a RING; who died, the HEIR; -4 (CUSTOM), 4 hours, n (-4: others). -1.", () -> {
             valley(4);
             x.week(2);
             bytes(1, 3, 1, 2);
@@ -656,6 +688,19 @@ public final class BookEdgesTest extends Edges {
                 allRefused(-1, () -> x.entry(entry, -1), () -> x.entry(entry, 5), () -> x.entry(entry, LOW), () -> x.entry(entry, HIGH));
             }
             allRefused(-1, () -> x.entry(9, 0), () -> x.entry(-1, 0), () -> x.entry(LOW, 0), () -> x.entry(HIGH, 0), () -> x.entry(150, 0), () -> x.entry(9, 5));
+        });
+        sentence("Of an ENTRY: 0 what (0 CUSTOM, 1 ACT, 2 JUDGED, 3 GIFT, 4 FORGIVEN, 5 RING, 6 DEATH)", () -> {
+            valley(3);
+            bytes(1, 0, 1);
+            customOf("h");
+            x.act(0, 1, 1, 0, 1);
+            x.judge(1, true);
+            x.gift(1);
+            x.forgive(0, 1, 1);
+            x.ring(1, 1);
+            x.death(2, 0);
+            for (int e = 0; e < 7; e++) due(e, x.entry(e, 0));
+            refused(-1, () -> x.entry(7, 0));
         });
         sentence("1 its WEEK (of JUDGED, GIFT: in which it was told)", () -> {
             valley(2);
@@ -721,6 +766,15 @@ public final class BookEdgesTest extends Edges {
             due(1, x.count(6));
             x.judge(3, true);
             due(0, x.count(6));
+            valley(2);
+            for (int i = 1; i <= 75; i++) {
+                x.act(0, 1, 1, 0, 1);
+                due(i, x.count(6));
+            }
+            for (int i = 0; i < 75; i++) {
+                x.judge(i, i % 2 == 0);
+                due(74 - i, x.count(6));
+            }
         });
     }
 

@@ -174,6 +174,14 @@ public final class NeedsEdgesTest extends Edges {
             x.week(8);
             x.act(3, 0, 10, 8, 0);
             due(1, x.best(0));
+            // the first and the last of all
+            valley(12);
+            x.need(5, 0, 1, 0);
+            due(0, x.best(0));
+            x.act(5, 11, 3, 0, 0);
+            due(11, x.best(0));
+            x.act(5, 0, 3, 0, 0);
+            due(0, x.best(0));
         });
         sentence("WHO BEST; -4: nobody. -1; -3: it is met.", () -> {
             valley(2);
@@ -356,6 +364,16 @@ public final class NeedsEdgesTest extends Edges {
             x.need(4, 0, 9, 0);
             x.need(4, 0, 1, 0);
             helpers(0, 1, 1);
+            // the first have nobody, so that more of the others can be met
+            valley(0);
+            x.folk(0, 0, 31);
+            x.folk(0, 1, 0);
+            x.folk(0, 2, 0);
+            openRoads();
+            x.need(1, 0, 3, 0);
+            x.need(1, 0, 3, 0);
+            for (int i = 0; i < 3; i++) x.need(2, 0, 3, 0);
+            helpers(-4, -4, 0, 0, 0);
             // the second has nobody, so that the others can be met
             valley(0);
             x.folk(0, 0, 7);

@@ -140,6 +140,69 @@ public final class RingsEdgesTest extends Edges {
         });
     }
 
+    private static long seed = 11;
+
+    private static int random(int n) {
+        seed = seed * 6364136223846793005L + 1442695040888963407L;
+        return (int) ((seed >>> 33) % n);
+    }
+
+    /** The most by trying out, pair by pair, all that could be taken off; over is what each would owe too little. */
+    private static int triedOut(int[][] owes, int pair, int[] over) {
+        int n = over.length;
+        if (pair == n * n) {
+            for (int o : over) if (o != 0) return -1;
+            return 0;
+        }
+        int a = pair / n;
+        int b = pair % n;
+        int most = -1;
+        for (int off = 0; off <= owes[a][b]; off++) {
+            over[a] += off;
+            over[b] -= off;
+            int rest = triedOut(owes, pair + 1, over);
+            over[a] -= off;
+            over[b] += off;
+            if (rest >= 0) most = Math.max(most, off + rest);
+        }
+        return most;
+    }
+
+    /** The least bound of all prices from -n to n of one after the other, the first one's being 0. */
+    private static int leastBound(int[] prices, int one) {
+        int n = prices.length;
+        if (one == n) {
+            ints(0, prices);
+            return x.bound(0);
+        }
+        int least = HIGH;
+        for (prices[one] = -n; prices[one] <= n; prices[one]++) least = Math.min(least, leastBound(prices, one + 1));
+        return least;
+    }
+
+    /** Goes on to prices with a lesser bound, some of the folk one up at a time, till there are none: these prove. */
+    private static void provedBySteps() {
+        int n = x.count(0);
+        int[] prices = new int[n];
+        ints(0, prices);
+        int least = x.bound(0);
+        boolean lesser = true;
+        while (lesser) {
+            lesser = false;
+            for (int some = 1; some < 1 << n && !lesser; some++) {
+                for (int k = 0; k < n; k++) x.put(0, k, prices[k] + (some >> k & 1));
+                int bound = x.bound(0);
+                lesser = bound < least;
+                if (!lesser) continue;
+                least = bound;
+                for (int k = 0; k < n; k++) prices[k] += some >> k & 1;
+            }
+        }
+        ints(0, prices);
+        due(1, x.proves(0));
+        due(least, x.most());
+    }
+
     private static void closing() {
         sentence("CLOSED: THE RING is told as an ENTRY with its HOURS, then the next one, till there is none (or THE BOOK is full).", () -> {
             valley(4);
@@ -247,6 +310,38 @@ public final class RingsEdgesTest extends Edges {
             due(8, x.most());
             owe(2, 0, 1);
             due(11, x.most());
+        });
+        sentence("(of each pair up to what is owed, in whole hours)", () -> {
+            for (int round = 0; round < 60; round++) {
+                valley(5);
+                int[][] owes = new int[5][5];
+                for (int k = 0; k < 8; k++) {
+                    int a = random(5);
+                    int b = (a + 1 + random(4)) % 5;
+                    int hours = 1 + random(3);
+                    if (owes[a][b] > 0) continue;
+                    owes[a][b] = hours;
+                    owe(a, b, hours);
+                }
+                due(triedOut(owes, 0, new int[5]), x.most());
+            }
+        });
+        sentence("prices that prove that no more can", () -> {
+            for (int round = 0; round < 40; round++) {
+                int folk = 3 + random(3);
+                valley(folk);
+                for (int k = 0; k < 4 * folk; k++) {
+                    int a = random(folk);
+                    owe(a, (a + 1 + random(folk - 1)) % folk, 1 + random(20));
+                }
+                int most = x.most();
+                due(most, leastBound(new int[folk], 1));
+            }
+            // ten ways of several lengths at once, of which some go back on others
+            valley(12);
+            for (int a = 0; a < 12; a++)
+                for (int k = 1; k < 12; k++) owe(a, (a + k) % 12, 1 + (a * 7 + k * k * 5) % 19);
+            provedBySteps();
         });
         sentence("`int most()`: THE MOST.", () -> {
             valley(12);

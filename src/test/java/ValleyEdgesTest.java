@@ -75,7 +75,15 @@ public final class ValleyEdgesTest extends Edges {
             allRefused(-1, () -> x.folk(5, 0, 0), () -> x.folk(0, 6, 0), () -> x.folk(0, 0, 32), () -> x.folk(-1, -1, -1));
             refused(-2, () -> x.folk(4, 5, 31));
         });
-        sentence("5 the WEEK of its DEATH (-4). -1.", () -> {
+        sentence("Of one: 0 KIND, 1 PLACE, 2 SKILLS, 3 HOURS, 4 WORTH, 5 the WEEK of its DEATH (-4). -1.", () -> {
+            x.folk(4, 5, 21);
+            x.folk(1, 0, 0);
+            int[] judge = {4, 5, 21, 5, 12, -4};
+            int[] young = {1, 0, 0, 5, 7, -4};
+            for (int k = 0; k < 6; k++) {
+                due(judge[k], x.about(0, k));
+                due(young[k], x.about(1, k));
+            }
             valley(3);
             due(-4, x.about(0, 5));
             x.week(520);
@@ -137,7 +145,38 @@ public final class ValleyEdgesTest extends Edges {
         });
     }
 
+    /** All rows of the six places, each with roads in that row alone: both ends are reached from one another. */
+    private static void rowsOfPlaces(int[] row, int n) {
+        if (n < 6) {
+            for (int p = 0; p < 6; p++) {
+                boolean in = false;
+                for (int i = 0; i < n; i++) in |= row[i] == p;
+                row[n] = p;
+                if (!in) rowsOfPlaces(row, n + 1);
+            }
+            return;
+        }
+        x = new HourValley();
+        for (int i = 0; i < 5; i++) x.road(row[i], row[i + 1], 1);
+        due(1, x.reached(row[0], row[5], 0));
+        due(0, x.reached(row[0], row[5], 13));
+        x.road(row[2], row[3], 14);
+        due(0, x.reached(row[0], row[5], 0));
+        due(1, x.reached(row[0], row[2], 0));
+        due(1, x.reached(row[5], row[3], 0));
+    }
+
     private static void roads() {
+        sentence("ROADS lie between two PLACES", () -> {
+            x.road(1, 4, 1);
+            due(1, x.reached(1, 4, 0));
+            due(1, x.reached(4, 1, 0));
+            due(1, x.road(4, 1, 6));
+            due(6, x.road(1, 4, 6));
+            due(0, x.reached(4, 1, 0));
+            due(1, x.reached(4, 1, 13));
+            refused(-1, () -> x.road(4, 4, 6));
+        });
         sentence("each open in some SEASONS (bits 0 .. 3; none at first)", () -> {
             for (int a = 0; a < 6; a++)
                 for (int b = 0; b < 6; b++)
@@ -164,6 +203,7 @@ public final class ValleyEdgesTest extends Edges {
             due(1, x.reached(3, 5, 26));
             due(1, x.reached(1, 2, 26));
             due(1, x.reached(1, 5, 0));
+            rowsOfPlaces(new int[6], 0);
         });
         sentence("SEASONS (0 .. 15) in which a ROAD between two PLACES is open: what it was. -1 (one PLACE, too).", () -> {
             for (int p = 0; p < 6; p++) {
