@@ -660,8 +660,9 @@ public final class HourValley {
 
         /** The place of the first byte with which no custom can go on; NONE if the text is a custom. */
         int faultOf(int[] row, int n) {
-            valueOf(row, n);
-            return failed ? at : NONE;
+            begin(row, n);
+            sum(0);
+            return failed || at < size ? at : NONE;
         }
 
         void tellFields(int h, int n, int g, int t, int s, int w, int y) {
@@ -674,16 +675,12 @@ public final class HourValley {
             year = y;
         }
 
-        int valueOf(int[] row, int n) {
+        /** Sets where a text is read; sum(0) then reads it, and answers its value if it is a custom. */
+        void begin(int[] row, int n) {
             text = row;
             size = Math.min(n, row.length);
             at = 0;
             failed = false;
-            int value = sum(0);
-            if (at < size) {
-                failed = true;
-            }
-            return value;
         }
 
         /** The byte that is next, or 0 (which no custom holds) behind the last one and after a fault. */
@@ -964,8 +961,8 @@ public final class HourValley {
         private int valueBy(int custom, int act) {
             if (workedBy[act] != custom) {
                 tellFieldsOf(act);
-                int value = reader.valueOf(rows[custom], rowSize[custom]);
-                worked[act] = Math.max(0, Math.min(value, MOST_COUNTED));
+                reader.begin(rows[custom], rowSize[custom]);
+                worked[act] = Math.max(0, Math.min(reader.sum(0), MOST_COUNTED));
                 workedBy[act] = custom;
             }
             return worked[act];

@@ -4,9 +4,13 @@ import java.lang.reflect.Method;
 import java.lang.reflect.Modifier;
 import java.nio.file.Files;
 import java.nio.file.Path;
+import java.util.ArrayDeque;
 import java.util.ArrayList;
 import java.util.Arrays;
 import java.util.List;
+import java.util.Map;
+import java.util.Set;
+import java.util.TreeMap;
 import java.util.TreeSet;
 import java.util.regex.Matcher;
 import java.util.regex.Pattern;
@@ -78,6 +82,61 @@ public final class LanguageTest {
         must(HourValley.class.getFields().length == 0, "public fields");
     }
 
+    private static List<Compiled> compiled() throws IOException {
+        List<Compiled> all = new ArrayList<>();
+        all.add(Compiled.of(HourValley.class));
+        for (Class<?> c : HourValley.class.getDeclaredClasses()) all.add(Compiled.of(c));
+        return all;
+    }
+
+    /** Rules 4, 6, 7 and 12: only what is listed is called; casts, lambdas, locks and objects made in calls are nowhere. */
+    private static void instructions(List<Compiled> all) {
+        TreeSet<String> library = new TreeSet<>();
+        for (Compiled c : all) {
+            for (String m : c.instructions.keySet()) {
+                boolean throwing = c.name.equals("HourValley") && (m.startsWith("balance(") || m.startsWith("element("));
+                for (int kind : c.instructions.get(m)) {
+                    String at = c.name + "." + m + ", instruction " + kind;
+                    must(!List.of(186, 192, 193, 194, 195).contains(kind), "lambda, cast or lock: " + at);
+                    must(kind != 191 || throwing, "throw: " + at);
+                    must(!List.of(188, 189, 197).contains(kind) || m.startsWith("<init>"), "an array made in a call: " + at);
+                    must(kind != 187 || throwing || m.startsWith("<init>"), "an object made in a call: " + at);
+                }
+                for (String to : c.calls.get(m)) if (!to.startsWith("HourValley")) library.add(to);
+            }
+        }
+        library.removeAll(List.of("java.lang.Object.<init>()V", "java.lang.Math.max(II)I", "java.lang.Math.min(II)I",
+            "java.util.Arrays.fill([II)V", "java.lang.System.arraycopy(Ljava/lang/Object;ILjava/lang/Object;II)V",
+            "java.lang.IllegalArgumentException.<init>(Ljava/lang/String;)V", "java.lang.IllegalStateException.<init>(Ljava/lang/String;)V"));
+        must(library.isEmpty(), "calls of the library: " + library);
+    }
+
+    /** Rule 11: calls go at most eight deep, where methods that call one another in a ring are one. */
+    private static void depth(Map<String, List<String>> calls) {
+        Map<String, Set<String>> under = new TreeMap<>();
+        for (String m : calls.keySet()) {
+            Set<String> met = new TreeSet<>();
+            ArrayDeque<String> open = new ArrayDeque<>(calls.get(m));
+            while (!open.isEmpty()) {
+                String next = open.pop();
+                if (met.add(next)) open.addAll(calls.get(next));
+            }
+            under.put(m, met);
+        }
+        Map<String, Integer> known = new TreeMap<>();
+        for (String m : calls.keySet()) must(depthOf(m, calls, under, known) <= 8, "calls go " + known.get(m) + " deep from " + m);
+    }
+
+    private static int depthOf(String method, Map<String, List<String>> calls, Map<String, Set<String>> under, Map<String, Integer> known) {
+        if (known.containsKey(method)) return known.get(method);
+        Set<String> ring = new TreeSet<>(List.of(method));
+        for (String m : under.get(method)) if (under.get(m).contains(method)) ring.add(m);
+        int deepest = 0;
+        for (String m : ring) for (String to : calls.get(m)) if (!ring.contains(to)) deepest = Math.max(deepest, depthOf(to, calls, under, known));
+        known.put(method, deepest + 1);
+        return deepest + 1;
+    }
+
     private static void fields(Class<?> c) {
         int own = 0;
         for (Field f : c.getDeclaredFields()) {
@@ -94,6 +153,9 @@ public final class LanguageTest {
         forbidden(bare(source));
         shortMethods(source);
         face();
+        List<Compiled> all = compiled();
+        instructions(all);
+        depth(Compiled.callsWithin(all));
         System.out.println("LanguageTest: " + (wrong == 0 ? "the rules that can be seen are kept" : wrong + " broken"));
         if (wrong != 0) System.exit(1);
     }
